@@ -7,6 +7,7 @@ public final class CutTest {
         clubPays(due);
         earliestCutPays(due);
         sharesRoundDown(due);
+        lowestOwnerOfOneStrand(due);
         cutAgain(due);
         due.end();
     }
@@ -101,6 +102,17 @@ public final class CutTest {
         y.pass(1);
         due.is("of one hour the lowest number", y.account(1), -5);
         due.is("not the first one told", y.account(2), 0);
+        Cablecourt z = new Cablecourt();
+        for (int c = 0; c < 4; c++) {
+            z.cable(4, 5, 1, c);
+        }
+        z.pass(3);
+        z.demand(5, 0, 1, 1);
+        z.cut(2, 0);
+        z.cut(1, 0);
+        z.pass(1);
+        due.is("of a later hour the lowest number too", z.account(1), -5);
+        due.is("and not the first one told", z.account(2), 0);
     }
 
     private static void sharesRoundDown(Due due) {
@@ -122,6 +134,22 @@ public final class CutTest {
         due.is("20 by shares too: 7 and 1 left", x.account(1), -1 - 1 - 8);
         due.is("7 and 2", x.account(3), -2 - 2 - 7);
         due.is("5 and 2", x.account(5), -2 - 2 - 5);
+    }
+
+    private static void lowestOwnerOfOneStrand(Due due) {
+        Cablecourt x = new Cablecourt();
+        x.cable(4, 5, 3, 4);
+        x.sell(0, 4, 2, 1, 0);
+        x.demand(0, 0, 1, 1);
+        x.cut(0, 0);
+        x.pass(1);
+        due.is("5 / 3 and 1 left", x.account(2), -2);
+        due.is("10 / 3", x.account(4), -3);
+        x.sell(0, 4, 0, 2, 0);
+        x.pass(1);
+        due.is("the owners of this hour: 3, 1 left, 5 for itself", x.account(0), 5 + 5 - 4);
+        due.is("not the lowest any more", x.account(2), -2 - 1);
+        due.is("no owner any more", x.account(4), -3);
     }
 
     private static void cutAgain(Due due) {

@@ -13,6 +13,7 @@ public final class DemandTest {
         noLandingTwice(due);
         longestWay(due);
         fromTheHourTold(due);
+        tenOfEach(due);
         due.end();
     }
 
@@ -170,6 +171,15 @@ public final class DemandTest {
         x.cut(1, 0);
         x.pass(1);
         due.is("none", x.way(0), Cablecourt.NONE);
+        Cablecourt y = new Cablecourt();
+        y.cable(0, 1, 1, 1);
+        y.demand(0, 0, 1, 1);
+        y.pass(1);
+        due.is("one lent", y.lent(0), 1);
+        y.cut(0, 0);
+        due.is("the last hour's until the next one", y.lent(0), 1);
+        y.pass(1);
+        due.is("none lent when not led", y.lent(0), 0);
     }
 
     private static void noLandingTwice(Due due) {
@@ -210,5 +220,27 @@ public final class DemandTest {
         due.is("no credit before", x.account(0), 0);
         x.pass(1);
         due.is("a credit for one hour", x.account(0), 5);
+    }
+
+    private static void tenOfEach(Due due) {
+        Cablecourt x = new Cablecourt();
+        for (int i = 0; i < 10; i++) {
+            x.cable(i % 5, i % 5 + 1, 2, 1);
+            x.demand(i % 2, 0, 5, 1);
+        }
+        x.pass(1);
+        int[] want = {-1, 31, -1, 31, -1, 992, -1, 992, -1, -1};
+        for (int d = 0; d < 10; d++) {
+            due.is("way(" + d + ")", x.way(d), want[d]);
+        }
+        due.is("five credits", x.account(0), 25);
+        due.is("one credit", x.account(1), 5);
+        due.is("nothing lent", x.owesAnew(0, 1), 0);
+        x.sell(9, 1, 0, 1, 0);
+        x.pass(1);
+        due.is("its own strand of the last cable, four lent ones", x.way(0), 992);
+        due.is("four are lent", x.lent(0), 4);
+        due.is("it owes for them", x.owesAnew(0, 1), 800);
+        due.is("it came first in the second round", x.way(7), Cablecourt.NONE);
     }
 }

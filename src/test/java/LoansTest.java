@@ -4,6 +4,7 @@ public final class LoansTest {
         Due due = new Due("LoansTest");
         grow(due);
         anew(due);
+        anewHourByHour(due);
         seals(due);
         wrongArguments(due);
         due.end();
@@ -64,7 +65,39 @@ public final class LoansTest {
         agree(due, x);
         x.pass(24);
         agree(due, x);
-        due.is("2 hours of 2, 3 of 1, 10 + 24 + 4 of 2", x.owes(4, 2) + x.owes(4, 3) + x.owes(4, 0) + x.owes(4, 5) > 0, true);
+    }
+
+    private static void anewHourByHour(Due due) {
+        Cablecourt x = new Cablecourt();
+        x.cable(0, 1, 4, 1);
+        x.demand(0, 0, 1, 2);
+        due.is("before an hour", x.owesAnew(0, 1), 0);
+        x.pass(1);
+        due.is("the hour 0", x.owesAnew(0, 1), 400);
+        x.sell(0, 1, 2, 3, 0);
+        due.is("a sale is so from the next hour on", x.owesAnew(0, 1), 400);
+        x.pass(1);
+        due.is("one strand of 1", x.owesAnew(0, 1), 600);
+        due.is("one strand of 2", x.owesAnew(0, 2), 200);
+        x.demand(3, 1, 0, 2);
+        x.pass(2);
+        due.is("two strands of 2 for the new demand", x.owesAnew(3, 2), 800);
+        due.is("as before", x.owesAnew(0, 2), 600);
+        x.cut(0, 0);
+        x.ship(0, 10, 1);
+        x.send(0, 0);
+        x.pass(5);
+        due.is("nothing while it is cut", x.owesAnew(3, 2), 800);
+        x.cable(0, 1, 1, 3);
+        x.cut(0, 0);
+        x.pass(2);
+        due.is("mended and cut again before an hour", x.owesAnew(3, 2), 800);
+        due.is("the new cable is too small", x.owesAnew(0, 3), 0);
+        x.sell(1, 3, 4, 1, 0);
+        x.demand(5, 0, 1, 1);
+        x.pass(3);
+        due.is("the new owner", x.owesAnew(5, 4), 600);
+        agree(due, x);
     }
 
     private static void agree(Due due, Cablecourt x) {
