@@ -28,6 +28,7 @@ public final class Cablecourt {
     private static final int SHIP_HOUR = 20;
     private static final int WORK = 5;
     private static final int MOST_LENT = MOST_DEMAND_STRANDS * (LANDINGS - 1);
+    private static final int BEYOND_ANY_LENGTH = STEP * LANDINGS * LANDINGS;
 
     private final Net live = new Net();
     private final Net anew = new Net();
@@ -633,7 +634,7 @@ public final class Cablecourt {
             }
             bestWay = NONE;
             bestLent = mostLent;
-            bestLength = Integer.MAX_VALUE;
+            bestLength = BEYOND_ANY_LENGTH;
             goal = demand.other;
             follow(this, 0, demand.landing, 1 << demand.landing, 0, 0, 0);
             if (bestWay != NONE) {

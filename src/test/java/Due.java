@@ -5,11 +5,29 @@ final class Due {
     }
 
     private final String test;
+    private String sentence = "";
     private int asked;
+    private int askedBefore;
     private int wrong;
 
     Due(String test) {
         this.test = test;
+    }
+
+    /**
+     * Names the words of the document that the next calls test: of its Terms for 0, else of the promise
+     * with that number. SentencesTest reads these lines, and asks that every word of the document has one.
+     */
+    void sentence(int promise, String words) {
+        endSentence();
+        sentence = "\"" + words + "\" (" + promise + "): ";
+        askedBefore = asked;
+    }
+
+    private void endSentence() {
+        if (!sentence.isEmpty() && asked == askedBefore) {
+            tell("nothing is asked");
+        }
     }
 
     void is(String call, long got, long want) {
@@ -49,12 +67,19 @@ final class Due {
         refuses(call, IllegalStateException.class, made);
     }
 
+    /** The numbers just below and just above a range, and some far away that wrap to one inside it. */
+    static int[] outside(int least, int most) {
+        return new int[] {least - 1, most + 1, Integer.MIN_VALUE, Integer.MAX_VALUE, least + (1 << 24), most - (1 << 24)};
+    }
+
     void tell(String text) {
         wrong++;
-        System.out.println(test + ": " + text);
+        System.out.println(test + ": " + sentence + text);
     }
 
     void end() {
+        endSentence();
+        sentence = "";
         System.out.println(test + ": " + asked + " asked, " + wrong + " wrong");
         if (wrong != 0) {
             System.exit(1);

@@ -1,7 +1,10 @@
+import java.io.IOException;
 import java.lang.reflect.Constructor;
 import java.lang.reflect.Field;
 import java.lang.reflect.Method;
 import java.lang.reflect.Modifier;
+import java.nio.file.Files;
+import java.nio.file.Path;
 import java.util.Set;
 import java.util.TreeSet;
 
@@ -17,7 +20,7 @@ public final class FaceTest {
         "int owes 2 " + X, "int owesAnew 2 " + X, "int account 1 " + X, "int spent 0 ", "int sold 2 " + X,
         "int place 1 " + X, "int worked 1 " + X, "int seal 0 "};
 
-    public static void main(String[] args) throws ReflectiveOperationException {
+    public static void main(String[] args) throws ReflectiveOperationException, IOException {
         Due due = new Due("FaceTest");
         int modifiers = Cablecourt.class.getModifiers();
         due.is("public and final", Modifier.isPublic(modifiers) && Modifier.isFinal(modifiers), true);
@@ -33,6 +36,7 @@ public final class FaceTest {
             due.is(inside + " is not of the face", Modifier.isPublic(m) || Modifier.isProtected(m), false);
         }
         due.is("classes in the file", Cablecourt.class.getDeclaredClasses().length <= 11, true);
+        questionsLast(due);
         due.end();
     }
 
@@ -81,5 +85,23 @@ public final class FaceTest {
         Field none = Cablecourt.class.getDeclaredField("NONE");
         due.is("NONE is an int", none.getType() == int.class && Modifier.isStatic(none.getModifiers()), true);
         due.is("NONE", none.getInt(null), -1);
+    }
+
+    /** The calls stand in the document's order, and the questions behind the line that names them. */
+    private static void questionsLast(Due due) throws IOException {
+        due.sentence(0, "Ahead of the calls `owned`, `isWhole`, `way`, `lent`, `owes`, `owesAnew`, `account`, `spent`, `sold`, `place`, `worked`, `seal` the interface says: ---- questions.");
+        String text = Files.readString(Path.of("src/main/java/Cablecourt.java"));
+        int before = text.indexOf("public Cablecourt()");
+        for (String method : METHODS) {
+            String name = method.split(" ")[1];
+            if (name.equals("owned")) {
+                int line = text.indexOf("---- questions");
+                due.is("the questions begin behind the calls", line > before, true);
+                before = line;
+            }
+            int at = text.indexOf("public " + method.split(" ")[0] + " " + name + "(");
+            due.is(name + " is behind the one before", at > before, true);
+            before = at;
+        }
     }
 }
