@@ -98,7 +98,7 @@ public final class DemandBoundsTest {
         for (int hours : before) {
             Cablecourt x = new Cablecourt();
             x.cable(0, 1, 1, 1);
-            passTo(x, hours);
+            Due.passHours(x, hours);
             x.demand(0, 0, 1, 1);
             x.demand(2, 4, 5, 1);
             due.is("told in the hour " + hours + ", nothing yet", x.owes(0, 1), 0);
@@ -107,12 +107,6 @@ public final class DemandBoundsTest {
             due.is("led in the hour " + hours, x.way(0), 1);
             due.is("one hour's loan", x.owes(0, 1), 200);
             due.is("one hour's credit", x.account(2), 5);
-        }
-    }
-
-    static void passTo(Cablecourt x, int hours) {
-        for (int left = hours; left > 0; left -= 24) {
-            x.pass(Math.min(24, left));
         }
     }
 
@@ -497,5 +491,16 @@ public final class DemandBoundsTest {
         x.pass(1);
         due.is("nothing is left for it", x.lent(1), 0);
         due.is("as its way tells", x.way(1), NONE);
+        Cablecourt y = new Cablecourt();
+        y.cable(0, 1, 4, 1);
+        y.demand(0, 0, 1, 4);
+        y.pass(1);
+        due.is("led", y.lent(0), 4);
+        y.cut(0, 0);
+        due.is("it was led in the last hour", y.lent(0), 4);
+        y.pass(1);
+        due.is("it was not", y.lent(0), 0);
+        y.demand(0, 0, 1, 4);
+        due.is("the next one neither", y.lent(1), 0);
     }
 }

@@ -72,6 +72,13 @@ final class Due {
         return new int[] {least - 1, most + 1, Integer.MIN_VALUE, Integer.MAX_VALUE, least + (1 << 24), most - (1 << 24)};
     }
 
+    /** Lets any number of hours go by, in as few calls as it takes. */
+    static void passHours(Cablecourt x, int hours) {
+        for (int left = hours; left > 0; left -= 24) {
+            x.pass(Math.min(24, left));
+        }
+    }
+
     void tell(String text) {
         wrong++;
         System.out.println(test + ": " + sentence + text);

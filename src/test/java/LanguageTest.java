@@ -10,7 +10,7 @@ public final class LanguageTest {
     private static final String[] RULED_OUT = {
         "->", "::", "\\btry\\b", "\\bcatch\\b", "\\bfinally\\b", "\\bsynchronized\\b", "\\bassert\\b", "\\bstatic\\s*\\{",
         "\\w+Exact\\b", "\\bhashCode\\b", "\\btoString\\b", "\\bpackage\\b", "\\bSystem\\.(?!arraycopy\\b)", "\\bdouble\\b",
-        "\\bfloat\\b", "\\bInteger\\.valueOf\\b", "\\bvolatile\\b", "\\bnative\\b", "\\bObject\\b", "\\bvar\\b"};
+        "\\bfloat\\b", "\\bInteger\\.valueOf\\b", "\\bInteger\\.[A-Z]{2}", "\\bvolatile\\b", "\\bnative\\b", "\\bObject\\b", "\\bvar\\b"};
 
     public static void main(String[] args) throws IOException {
         Due due = new Due("LanguageTest");

@@ -148,7 +148,7 @@ public final class LoanBoundsTest {
         x.demand(1, 0, 1, 3);
         x.pass(1);
         both(due, "the owner's comes first", x, 0, 1, 200);
-        DemandBoundsTest.passTo(x, 495);
+        Due.passHours(x, 495);
         x.cable(0, 1, 1, 2);
         x.demand(3, 0, 1, 1);
         x.pass(1);
@@ -268,7 +268,7 @@ public final class LoanBoundsTest {
         x.pass(1);
         both(due, "four demands of four over 3400", x, 5, 0, 54400);
         due.is("the fifth one is not led", x.way(4), -1);
-        DemandBoundsTest.passTo(x, 499);
+        Due.passHours(x, 499);
         both(due, "500 hours of it", x, 5, 0, 27_200_000);
         due.is("six credits of 20 each hour", x.account(5), 60_000);
         due.is("by the club", x.account(-1), -60_000);
@@ -289,7 +289,7 @@ public final class LoanBoundsTest {
         x.pass(5);
         due.is("nothing is owed", x.seal(), 0);
         Cablecourt y = theLongestWays();
-        DemandBoundsTest.passTo(y, 500);
+        Due.passHours(y, 500);
         due.is("it is kept", y.owes(5, 0), 27_200_000);
         long owed = 27_200_000L * 31;
         int want = (int) owed;

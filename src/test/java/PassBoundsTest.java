@@ -54,7 +54,7 @@ public final class PassBoundsTest {
         }
         due.is("no hour goes by", x.account(0), 0);
         due.is("the next one is 1", x.pass(1), 1);
-        DemandBoundsTest.passTo(x, 499);
+        Due.passHours(x, 499);
         for (int hours : Due.outside(1, 24)) {
             due.argument("pass(" + hours + ") in the hour 500", () -> x.pass(hours));
         }
@@ -65,7 +65,7 @@ public final class PassBoundsTest {
         for (int left = 0; left <= 24; left++) {
             Cablecourt x = new Cablecourt();
             x.demand(0, 0, 1, 1);
-            DemandBoundsTest.passTo(x, 500 - left);
+            Due.passHours(x, 500 - left);
             for (int hours = left + 1; hours <= 24; hours++) {
                 int more = hours;
                 due.state(left + " are left: pass(" + hours + ")", () -> x.pass(more));
@@ -81,7 +81,7 @@ public final class PassBoundsTest {
 
     private static void upTo500(Due due) {
         Cablecourt x = new Cablecourt();
-        DemandBoundsTest.passTo(x, 500);
+        Due.passHours(x, 500);
         due.is("cable", x.cable(0, 1, 8, 0), 0);
         due.is("demand", x.demand(0, 0, 1, 1), 0);
         due.is("sell", x.sell(0, 0, 1, 1, 5), 1);

@@ -90,7 +90,7 @@ public final class RefusalTest {
             x.ship(2, 10, 10 - s);
         }
         x.send(0, 0);
-        DemandBoundsTest.passTo(x, 500);
+        Due.passHours(x, 500);
     }
 
     private static void allCut(Cablecourt x) {
@@ -98,7 +98,7 @@ public final class RefusalTest {
             x.cable(c % 6, (c + 1) % 6, 1 + c % 8, c % 6);
             x.demand(c % 6, (c + 3) % 6, c % 6, 1 + c % 4);
         }
-        DemandBoundsTest.passTo(x, 479);
+        Due.passHours(x, 479);
         for (int c = 0; c < 10; c++) {
             x.cut(c, 200);
         }

@@ -45,10 +45,12 @@ public final class SellBoundsTest {
         due.is("nothing is paid", x.account(1), 0);
         due.is("for 1", x.sell(0, 0, 1, 2, 1), 5);
         due.is("1 for both", x.account(1), -1);
+        due.is("1 is got for them", x.sold(0, 1), 1);
         due.is("for 99999", x.sell(0, 0, 2, 1, 99999), 1);
         due.is("99999", x.account(2), -99999);
         due.is("for 100000", x.sell(0, 0, 3, 2, 100000), 2);
         due.is("100000 for both", x.account(3), -100000);
+        due.is("100000 is got for them", x.sold(0, 3), 100000);
         due.is("all is the seller's", x.account(0), 200000);
         due.argument("for -1", () -> x.sell(0, 1, 0, 1, -1));
         due.argument("for 100001", () -> x.sell(0, 1, 0, 1, 100001));

@@ -14,7 +14,7 @@ public final class StormBoundsTest {
     /** A club with a ship at its cut, after so many hours, with a store for all of them. */
     private static Cablecourt atWork(int hours) {
         Cablecourt x = new Cablecourt();
-        DemandBoundsTest.passTo(x, hours);
+        Due.passHours(x, hours);
         x.cable(0, 1, 1, 0);
         x.cut(0, 0);
         x.ship(0, 10, 10);
